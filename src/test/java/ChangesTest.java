@@ -23,6 +23,13 @@ final class ChangesTest {
         CHECK.due("late(0, 5), in place of 30", x.late(0, 5), 30);
         CHECK.due("cost(0), late by 5", x.cost(0), 270);
         CHECK.due("late(0, 0)", x.late(0, 0), 5);
+        FourTenGates six = Check.laid("t10,2;t10,2;t10,2;t10,2;t10,2;t10,2;c1;");
+        for (int i = 0; i < 6; i++) {
+            CHECK.due("late(" + i + ", 30) of six", six.late(i, 30), 0);
+            CHECK.due("train(" + i + ", 2) of six", six.train(i, 2), 30);
+            CHECK.due("stopped(0, " + i + ") of six", six.stopped(0, i), 120);
+        }
+        CHECK.due("cost(0) of six", six.cost(0), 6 * 120);
         CHECK.due("cost(0), late no more", x.cost(0), 300);
         int[][] wrong = {{-1, 0}, {1, 0}, {0, -1}, {0, 31}, {Integer.MAX_VALUE, 5}, {0, Integer.MIN_VALUE}};
         for (int[] w : wrong) {
@@ -64,6 +71,12 @@ final class ChangesTest {
         CHECK.due("gates(0, 182)", x.gates(0, 182), 0);
         CHECK.due("leave(0)", x.leave(0), 0);
         CHECK.due("leave(0), none", x.leave(0), BAD);
+        FourTenGates y = Check.laid("t0,2;g1;k10,11;k20,25;k30,33;");
+        y.leave(0);
+        int[][] gates = {{62, 0}, {119, 0}, {120, 1}, {149, 2}, {150, 1}, {151, 0}, {180, 1}, {197, 2}, {198, 1}, {199, 0}};
+        for (int[] g : gates) {
+            CHECK.due("gates(0, " + g[0] + "), those behind came one down", y.gates(0, g[0]), g[1]);
+        }
     }
 
     private static void undo() {

@@ -161,6 +161,7 @@ final class CrossingsTest {
     private static void layBegins() {
         String text = "t5,1;t59,2;u3,2;k1,2;k3,4;o2,4;o2,6;";
         FourTenGates x = new FourTenGates();
+        x.late(0, 8);
         x.late(1, 9);
         x.shut(50, 51);
         x.seen(1, 0);
@@ -174,6 +175,7 @@ final class CrossingsTest {
         for (int what = 0; what < counts.length; what++) {
             CHECK.due("count(" + what + ") behind lay()", x.count(what), counts[what]);
         }
+        CHECK.due("train(0, 2) behind lay()", x.train(0, 2), 0);
         CHECK.due("train(1, 2) behind lay()", x.train(1, 2), 0);
         CHECK.due("undo() behind lay()", x.undo(), NO);
         CHECK.due("back() behind lay()", x.back(), NO);

@@ -159,6 +159,10 @@ final class HourTest {
         CHECK.due("end: waited(0, 0)", x.waited(0, 0), 6);
         CHECK.due("end: cost(0)", x.cost(0), 6);
         CHECK.due("end: cost(1)", x.cost(1), 0);
+        // who waits at the end of one hour does not wait at the beginning of the next
+        x.leave(0);
+        CHECK.due("end: crossed(0, 0), left out", x.crossed(0, 0), 354);
+        CHECK.due("end: cost(0), left out", x.cost(0), 0);
     }
 
     private static void doctorsFirst() {

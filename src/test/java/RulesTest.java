@@ -7,6 +7,7 @@ final class RulesTest {
     public static void main(String[] args) {
         cheapest();
         lead();
+        leadUpToNinetyNine();
         leadBehindTheHour();
         more();
         dinner();
@@ -51,6 +52,17 @@ final class RulesTest {
         FourTenGates z = Check.laid("t10,2;u9,1;g9;c99;w1,9;a99,99;");
         CHECK.due("lead(0), a dear train", z.lead(0), 9);
         CHECK.due("lead(1), a dear train", z.lead(1), (63 + 9 - 54) * 9);
+    }
+
+    private static void leadUpToNinetyNine() {
+        // doctors take a beat each from 60 on; gates that move at once behind them keep the flock off the road,
+        // else the bicycle of 66 waits for the flock and not for the gates
+        FourTenGates x = Check.laid("t27,2;u10,2;u10,2;u10,2;u10,1;u11,3;g9;w1,0;w2,1;w3,9;a99,0;");
+        CHECK.due("lead(0), from 63 on", x.lead(0), 99);
+        CHECK.due("lead(1), from 63 on", x.lead(1), 1 + 2);
+        FourTenGates y = Check.laid("t27,2;u10,2;u10,2;u10,1;u11,3;g9;w1,0;w2,1;w3,9;a99,0;");
+        CHECK.due("lead(0), 62 is too far ahead", y.lead(0), 9);
+        CHECK.due("lead(1), 62 is too far ahead", y.lead(1), 1 + (92 - 66) * 9);
     }
 
     private static void leadBehindTheHour() {

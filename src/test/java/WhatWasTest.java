@@ -144,6 +144,8 @@ final class WhatWasTest {
         FourTenGates y = Check.laid("t0,2;c1;o0,5;o1,5;");
         CHECK.due("mean(0, 0, 0), whole", y.mean(0, 0, 0), 357);
         CHECK.due("mean(0, 0, 1), whole", y.mean(0, 0, 1), 1);
+        FourTenGates rare = Check.laid("t0,2;c1;o0,9;o5,1;");
+        CHECK.due("mean(0, 0, 0), one of ten", rare.mean(0, 0, 0), (9 * 360 + 330) / 10);
         FourTenGates tenths = Check.laid("t0,2;u0,3;u0,3;c0;w3,3;o0,10;");
         CHECK.due("mean(0, 0, 0) of one lateness", tenths.mean(0, 0, 0), 3);
         FourTenGates z = Check.laid("t0,2;c0;o9,10;");
@@ -170,6 +172,10 @@ final class WhatWasTest {
         FourTenGates y = Check.laid("t0,2;c1;");
         CHECK.due("day(0, 9999, 1)", y.day(0, 9999, 1), 342);
         CHECK.due("day(2, 9999, 1)", y.day(2, 9999, 1), 5);
+        y.shut(2, 4);
+        CHECK.due("day(0, 9999, 1), with a closing", y.day(0, 9999, 1), 0);
+        y.leave(0);
+        CHECK.due("day(0, 9999, 1), left out", y.day(0, 9999, 1), 342);
         int[][] wrong = {{-1, 0, 0}, {4, 0, 0}, {0, -1, 0}, {0, 10000, 0}, {0, 0, -1}, {0, 0, 2}, {0, Integer.MAX_VALUE, 0}};
         for (int[] w : wrong) {
             CHECK.due("day(" + w[0] + ", " + w[1] + ", " + w[2] + ")", x.day(w[0], w[1], w[2]), BAD);
