@@ -3,16 +3,22 @@ final class Check {
     private final String name;
     private int asked = 0;
     private int wrong = 0;
+    private String sentence = "";
 
     Check(String name) {
         this.name = name;
+    }
+
+    /** The sentence of the document that the next answers are due by. */
+    void about(String words) {
+        sentence = " (" + words + ")";
     }
 
     void due(String call, long got, long want) {
         asked++;
         if (got != want) {
             wrong++;
-            System.out.println(name + ": " + call + " answered " + got + ", due is " + want);
+            System.out.println(name + sentence + ": " + call + " answered " + got + ", due is " + want);
         }
     }
 
