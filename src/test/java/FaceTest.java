@@ -67,7 +67,12 @@ final class FaceTest {
         Constructor<?>[] constructors = FourTenGates.class.getDeclaredConstructors();
         CHECK.due("constructors", constructors.length, 1);
         CHECK.due("the constructor is public", Modifier.isPublic(constructors[0].getModifiers()) ? 1 : 0, 1);
+        CHECK.due("what the constructor takes", constructors[0].getParameterCount(), 0);
         CHECK.due("the class is final", Modifier.isFinal(FourTenGates.class.getModifiers()) ? 1 : 0, 1);
+        CHECK.due("the class is public", Modifier.isPublic(FourTenGates.class.getModifiers()) ? 1 : 0, 1);
+        // what it took over from another class would be visible, too
+        CHECK.due("the class is under Object alone", FourTenGates.class.getSuperclass() == Object.class ? 1 : 0, 1);
+        CHECK.due("interfaces", FourTenGates.class.getInterfaces().length, 0);
     }
 
     private static void fields() {
@@ -77,6 +82,8 @@ final class FaceTest {
             if (!Modifier.isPrivate(f.getModifiers())) {
                 visible++;
                 CHECK.due("field " + f + " is a constant", constants.contains(f.getName()) ? 1 : 0, 1);
+                boolean asTold = f.getModifiers() == (Modifier.PUBLIC | Modifier.STATIC | Modifier.FINAL) && f.getType() == int.class;
+                CHECK.due("field " + f + " is public static final int", asTold ? 1 : 0, 1);
             }
             if (Modifier.isStatic(f.getModifiers())) {
                 CHECK.due("static " + f + " is final", Modifier.isFinal(f.getModifiers()) ? 1 : 0, 1);
@@ -90,6 +97,7 @@ final class FaceTest {
         CHECK.due("at most eleven classes inside", inside.length <= 11 ? 1 : 0, 1);
         for (Class<?> c : inside) {
             CHECK.due(c + " is static", Modifier.isStatic(c.getModifiers()) ? 1 : 0, 1);
+            CHECK.due(c + " is private or package-visible", c.getModifiers() & (Modifier.PUBLIC | Modifier.PROTECTED), 0);
             CHECK.due(c + " has few fields", c.getDeclaredFields().length <= 20 ? 1 : 0, 1);
             for (Method m : c.getDeclaredMethods()) {
                 CHECK.due(m + " has few parameters", m.getParameterCount() <= 7 ? 1 : 0, 1);
