@@ -201,7 +201,7 @@ final class HourEdgesTest {
 
     private static void gatesStayShutForTrains() {
         CHECK.about("8: SHUT, the RULE does not, no TRAIN is passing, none was stopped in the BEAT ahead");
-        // it begins to pass at 60, the closing ends at 60, 66: two beats of passing hold the gates
+        // the closing ends at 60, as the train comes: too early for it; at 66, as two have passed; at 66, as a third one waits
         gates(Check.laid("t10,2;g1;k9,10;"), 0, new int[][] {{59, 2}, {60, 1}, {61, 0}});
         gates(Check.laid("t10,2;t10,2;g1;k9,11;"), 0, new int[][] {{65, 2}, {66, 1}});
         gates(Check.laid("t10,2;t10,2;t10,2;g1;k9,11;"), 0, new int[][] {{65, 2}, {66, 2}, {68, 2}, {69, 1}});

@@ -32,7 +32,7 @@ final class RulesEdgesTest {
 
     private static void cheapestOfEachRule() {
         CHECK.about("18: of RULES 0 to 3 the one of least COST: it; as much");
-        // goods in the plan alone; a fast train, unplanned; by sight no flock waits; both kinds: only held is for both
+        // goods in the plan alone; a fast train, unplanned; by sight no doctor waits; both kinds: only held is for both
         cheapest("t20,2;k19,21;", 0, 0);
         cheapest("t20,1;c1;", 1, 0);
         cheapest("t20,1;u15,2;c1;w2,9;", 2, 5);
@@ -45,8 +45,10 @@ final class RulesEdgesTest {
         cheapest("t20,1;k19,21;", 0, 0);
         cheapest("t20,0;", 1, 0);
         cheapest("t20,2;c3;", 2, 15);
-        // by plan and by sight the same five beats: the closing begins a beat behind the train
-        cheapest("t20,2;t40,1;g5;c1;k20,21;k39,41;", 0, 5);
+        // by plan the cart waits for 17 beats of 6; by sight, and held, the train is stopped for 6 of 17
+        cheapest("t20,2;u19,0;g5;c17;w0,6;k19,21;", 0, 102);
+        CHECK.due("cost(2), as much", Check.laid("t20,2;u19,0;g5;c17;w0,6;k19,21;").cost(2), 102);
+        CHECK.due("cost(3), as much", Check.laid("t20,2;u19,0;g5;c17;w0,6;k19,21;").cost(3), 102);
     }
 
     private static void cheapestWhat() {

@@ -274,7 +274,9 @@ final class WhatWasEdgesTest {
 
     private static void bridgeUpTo999() {
         CHECK.about("27: days (1 to 999); none");
-        // no cost and x make 990 to 999 days; 989 is the last that is right, 1000 the first that is not
+        // no cost and x make 991 to 999 days; 990 is the last that is right, 1000 the first that is not
+        bridge("t0,2;u0,3;u0,3;u0,3;u0,3;u0,3;c0;", 99, 990);
+        bridge("t0,2;u0,3;u0,3;u0,3;u0,3;u0,3;c0;", 98, 980);
         String waits = "t0,2;u0,3;u0,3;c0;w3,";
         bridge(waits + "9;", 89, 989);
         bridge(waits + "9;", 90, NONE);

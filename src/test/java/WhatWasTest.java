@@ -85,7 +85,7 @@ final class WhatWasTest {
     }
 
     private static void fits() {
-        // planned shut at 100 to 120; the bell rings at 54; by sight from 91 on
+        // planned from 96 to 120; the bell rings at 54; by sight from 91 on
         FourTenGates x = Check.laid("t15,1;g2;k16,20;");
         CHECK.due("fits(), nothing seen", x.fits(), 15);
         x.seen(54, 1);
